@@ -29,13 +29,18 @@ final class Check {
         due(what + ", what there is behind it,", before, allOf(x));
     }
 
-    /** The exception's own name, so that one of the machine's is not taken for one of the program's. */
+    /** The exception's own name, and a mark if the library threw it, not a throw of the program or its model. */
     static String thrownBy(Call call) {
         try {
             return "nothing, but " + call.run();
         } catch (RuntimeException e) {
-            return e.getClass().getSimpleName();
+            return e.getClass().getSimpleName() + (isOwn(e) ? "" : " of the library");
         }
+    }
+
+    private static boolean isOwn(RuntimeException e) {
+        StackTraceElement[] calls = e.getStackTrace();
+        return calls.length > 0 && calls[0].getClassName().matches("(Letter|Slow)Locks.*");
     }
 
     /** All that can be asked; a lost word shows by the trials in which it is found. */
