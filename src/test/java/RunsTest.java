@@ -1,9 +1,11 @@
 /** Long runs of mixed calls, right and wrong ones: each answers as SlowLocks does, and leaves the same behind. */
 public final class RunsTest {
-    private static final int RUNS = 120;
-    private static final int CALLS = 512;
+    private static final int RUNS = 300;
+    private static final int MOST_CALLS = 512;
+    private static final int CALLS_OF_A_STEP = 7;
 
     private long drawn;
+    private int called = 0;
 
     private RunsTest(long start) {
         drawn = start;
@@ -38,15 +40,15 @@ public final class RunsTest {
         LetterLocks x = new LetterLocks();
         SlowLocks y = new SlowLocks();
         int locks = 1 + run % 8;
-        for (int call = 0; call < CALLS; call++) {
-            String what = "run " + run + ", call " + call + ": ";
-            if (call < locks) {
+        while (called + CALLS_OF_A_STEP <= MOST_CALLS) {
+            String what = "run " + run + ", call " + called + ": ";
+            if (called < 2 * locks) {
                 int word = near(0, 1295);
                 same(what + "lock " + word, () -> x.lock(word), () -> y.lock(word));
             } else {
                 step(what, x, y, near(0, locks - 1));
             }
-            Check.due(what + "digest", y.digest(), x.digest());
+            same(what + "digest", () -> x.digest(), () -> y.digest());
         }
     }
 
@@ -149,7 +151,8 @@ public final class RunsTest {
         }
     }
 
-    private static void same(String what, Check.Call fast, Check.Call slow) {
+    private void same(String what, Check.Call fast, Check.Call slow) {
+        called++;
         Check.due(what, Check.thrownBy(slow), Check.thrownBy(fast));
     }
 }

