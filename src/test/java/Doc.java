@@ -3,16 +3,22 @@ import java.io.UncheckedIOException;
 import java.nio.charset.StandardCharsets;
 import java.nio.file.Files;
 import java.nio.file.Path;
-import java.util.HashSet;
+import java.util.Arrays;
 import java.util.Map;
-import java.util.Set;
 import java.util.TreeMap;
+import java.util.regex.Matcher;
+import java.util.regex.Pattern;
 
-/** The document's sentences: a test names the one that it is for, and none that names an exception is left out. */
+/** The document's sentences: a test names the one that it is for, and none is left without a test. */
 final class Doc {
     private static final Path FILE = Path.of("../shared/DOC.md");
+
+    /** A section's head, and a bare name of what a call is given, say nothing of their own. */
+    private static final Pattern NAMES = Pattern.compile("\\A[^\\n]*"
+        + "|- `(lock|ring|letter|word|a|b|rack|hours)`: (the|a|its|how) (lock|ring|letter|word|rack|many)");
+
     private static final Map<String, String> SECTIONS = sections();
-    private static final Set<String> QUOTED = new HashSet<>();
+    private static final Map<String, boolean[]> LEFT = left();
 
     private Doc() {
     }
@@ -20,25 +26,47 @@ final class Doc {
     /** The answers looked at from here on are due to this sentence; it must stand so in this section. */
     static void says(String section, String sentence) {
         Check.under(section + ", '" + sentence + "'");
-        Check.due("stands in the document", true, SECTIONS.getOrDefault(section, "").contains(sentence));
-        QUOTED.add(section + ": " + sentence);
+        int at = section(section).indexOf(sentence);
+        Check.due("stands in the document", true, at >= 0);
+        while (at >= 0) {
+            Arrays.fill(LEFT.get(section), at, at + sentence.length(), false);
+            at = section(section).indexOf(sentence, at + 1);
+        }
     }
 
     static void says(int promise, String sentence) {
         says("Promise " + promise, sentence);
     }
 
-    /** Looks that each promise, and each of the sentences on exceptions, has been quoted. */
+    /** This stands in the section, but is no test's: no answer could break it. */
+    static void onlyTells(String section, String text) {
+        says(section, text);
+    }
+
+    /** A section from its head to the next one's; an empty text, if there is none. */
+    static String section(String name) {
+        return SECTIONS.getOrDefault(name, "");
+    }
+
+    /** Looks that no section has words that no test has quoted. */
     static void isQuoted() {
-        for (Map.Entry<String, String> section : SECTIONS.entrySet()) {
-            String name = section.getKey();
-            if (name.startsWith("Promise ")) {
-                Check.under(name);
-                Check.due("has a test", true, QUOTED.stream().anyMatch(quoted -> quoted.startsWith(name + ": ")));
-                section.getValue().lines().filter(line -> line.startsWith("Throws ")).forEach(line ->
-                    Check.due("has a test of '" + line + "'", true, QUOTED.contains(name + ": " + line)));
+        for (String name : SECTIONS.keySet()) {
+            Check.under(name);
+            Check.due("what no test has quoted", "", leftOf(name));
+        }
+    }
+
+    private static String leftOf(String name) {
+        StringBuilder found = new StringBuilder();
+        String section = section(name);
+        for (int i = 0; i < section.length(); i++) {
+            boolean isLeft = LEFT.get(name)[i];
+            boolean isTold = isLeft && Character.isLetterOrDigit(section.charAt(i));
+            if (isTold || isLeft && found.length() > 0 && section.charAt(i) == ' ') {
+                found.append(section.charAt(i));
             }
         }
+        return found.toString().trim();
     }
 
     private static Map<String, String> sections() {
@@ -48,6 +76,20 @@ final class Doc {
             found.put(head.replaceAll(":.*", ""), section);
         }
         return found;
+    }
+
+    private static Map<String, boolean[]> left() {
+        Map<String, boolean[]> left = new TreeMap<>();
+        for (Map.Entry<String, String> section : SECTIONS.entrySet()) {
+            boolean[] each = new boolean[section.getValue().length()];
+            Arrays.fill(each, true);
+            Matcher names = NAMES.matcher(section.getValue());
+            while (names.find()) {
+                Arrays.fill(each, names.start(), names.end(), false);
+            }
+            left.put(section.getKey(), each);
+        }
+        return left;
     }
 
     private static String text() {

@@ -1,6 +1,7 @@
-/** The boundary cases that the document names, sentence by sentence: each has a test of its own, under its quotation. */
+/** The document sentence by sentence: each has a test, under its quotation, and its boundary cases have one of their own. */
 public final class EdgesTest {
     public static void main(String[] args) {
+        FaceEdges.run();
         TermsEdges.run();
         HourEdges.run();
         LocksEdges.run();

@@ -7,12 +7,14 @@ final class HoursEdges {
 
     static void run() {
         passHours();
+        passGoBy();
         passHowMany();
         passShutsInThem();
         foreseeAsPassed();
         foreseeAtMost();
         foreseeHours();
         foreseeWhich();
+        untilAsPassed();
         untilNow();
         untilAtMost();
         untilNotByThen();
@@ -62,6 +64,29 @@ final class HoursEdges {
         Check.due("behind the least", 1, x.count(0));
         x.pass(99);
         Check.due("behind the largest", 100, x.count(0));
+    }
+
+    private static void passGoBy() {
+        Doc.says(18, "Lets hours go by.");
+        for (int hours = 1; hours <= 99; hours++) {
+            LetterLocks atOnce = openUpTo(8 + hours % 17);
+            LetterLocks oneByOne = openUpTo(8 + hours % 17);
+            int shut = 0;
+            for (int passed = 0; passed < hours; passed++) {
+                shut += oneByOne.pass(1);
+            }
+            Check.due("locks shut in " + hours + " hours", shut, atOnce.pass(hours));
+            Check.due("the hour behind " + hours, 7 + hours, atOnce.count(0));
+            Check.due("what is told behind " + hours, Stations.told(oneByOne), Stations.told(atOnce));
+        }
+    }
+
+    /** Of all kinds, one more of them in rack 2, which is open up to ahead of this hour of the day. */
+    private static LetterLocks openUpTo(int hour) {
+        LetterLocks x = Stations.mixed();
+        x.put(7, 2);
+        x.setHours(2, 0, hour);
+        return x;
     }
 
     private static void passHowMany() {
@@ -140,6 +165,7 @@ final class HoursEdges {
     }
 
     private static void foreseeHours() {
+        Doc.says(19, "`hours`: how many, 1 to 99");
         Doc.says(19, "Throws `IllegalArgumentException` if hours is not 1 to 99");
         Edge.range(Check.ARGUMENT, 1, 99, Stations::mixed, (x, hours) -> x.foresee(hours, 0));
         Edge.range(Check.ARGUMENT, 1, 99, Stations::mixed, (x, hours) -> x.foresee(hours, 7));
@@ -159,6 +185,26 @@ final class HoursEdges {
         }
         x.setHours(1, from, to);
         return x;
+    }
+
+    /** Of a lock in a rack with any hours, in any hour of the day, and looked at hour by hour then. */
+    private static void untilAsPassed() {
+        Doc.says(20, "Returns behind how many hours it is shut, if nothing is done: 0 if now, at most 48; "
+            + "-1 if not by then (nothing is changed).");
+        for (int i = 0; i < 24 * 25 * 24; i++) {
+            int from = i / 600;
+            int to = i / 24 % 25;
+            int hour = i % 24;
+            LetterLocks x = inRackAt(hour, from, to);
+            int told = x.until(7);
+            int behind = 0;
+            while (behind <= 48 && x.told(7, 1) == 1) {
+                x.pass(1);
+                behind++;
+            }
+            Check.due("open from " + from + " to " + to + ", in hour " + hour, behind > 48 ? -1 : behind, told);
+            Check.due("not more than a day", true, told <= 24);
+        }
     }
 
     private static void untilNow() {
@@ -278,7 +324,9 @@ final class HoursEdges {
     }
 
     private static void digestWraps() {
-        Doc.says(23, "d becomes d * 31 + x, which wraps around as a 64-bit integer: what count() tells, in its order; "
+        Doc.says(23, "Returns d.");
+        Doc.says(23, "Computes a checksum. A number d starts with 1471; for each of the following numbers x, "
+            + "d becomes d * 31 + x, which wraps around as a 64-bit integer: what count() tells, in its order; "
             + "for each rack what rack() tells; for each lock what told() tells, "
             + "then the wear of each ring at each letter (all in their order).");
         Edge.onlyTells("of all kinds", checksum(numbers(Stations.mixed())), Stations::mixed, x -> x.digest());

@@ -5,6 +5,7 @@ final class LocksEdges {
 
     static void run() {
         newObject();
+        lockNew();
         lockNumber();
         lockWord();
         lockTheNinth();
@@ -14,7 +15,9 @@ final class LocksEdges {
         turnLetter();
         openAtWord();
         openStays();
+        openThen();
         openWhich();
+        shutOne();
         shutWhere();
         shutWhich();
         shutTwice();
@@ -23,6 +26,7 @@ final class LocksEdges {
         renameWhich();
         renameWord();
         renameShut();
+        loseFromNowOn();
         loseOrFind();
         loseWhich();
     }
@@ -42,6 +46,24 @@ final class LocksEdges {
         String before = Stations.told(new LetterLocks());
         other.setPlaces(1, 6);
         Check.due("each is by itself, what a new one tells", before, Stations.told(new LetterLocks()));
+    }
+
+    private static void lockNew() {
+        Doc.says(2, "A new lock.");
+        LetterLocks x = Edge.answers("beside others", 7, () -> {
+            LetterLocks y = Stations.with(1, 2, 3, 4, 5, 6, 7);
+            y.shut(6);
+            y.lose(6, true);
+            y.pass(9);
+            return y;
+        }, y -> y.lock(865));
+        int[] fresh = {0, 1, -1, 0, 0, 865};
+        for (int what = 0; what < 6; what++) {
+            Check.due("told of it " + what, fresh[what], x.told(7, what));
+        }
+        for (int i = 0; i < 24; i++) {
+            Check.due("its wear", 0, x.wear(7, i / 6, i % 6));
+        }
     }
 
     private static void lockNumber() {
@@ -126,9 +148,41 @@ final class LocksEdges {
         Edge.answers("at its word", true, () -> Stations.with(0), y -> y.open(0));
     }
 
+    private static void openThen() {
+        Doc.says(4, "Returns whether it is open then.");
+        for (int i = 0; i < 1296; i++) {
+            int standing = i;
+            LetterLocks x = Edge.answers("shut, at " + i, i == 777, () -> Stations.shutAt(777, standing), y -> y.open(0));
+            Check.due("told whether it is open", i == 777 ? 1 : 0, x.told(0, 1));
+        }
+        LetterLocks x = Stations.shutAt(777, 777);
+        x.open(0);
+        Check.due("open, at its word", true, x.open(0));
+        x.turn(0, 3, 0);
+        Check.due("open, away from its word", true, x.open(0));
+        x.shut(0);
+        Check.due("shut again", false, x.open(0));
+    }
+
     private static void openWhich() {
         Doc.says(4, "Throws `IndexOutOfBoundsException` if there is no such lock");
         Edge.lockNumbers((x, lock) -> x.open(lock));
+    }
+
+    private static void shutOne() {
+        Doc.says(5, "Shuts a lock.");
+        for (int i = 0; i < 8; i++) {
+            LetterLocks x = Stations.open(8);
+            x.put(i, 2);
+            x.lose(i, true);
+            x.shut(i);
+            for (int lock = 0; lock < 8; lock++) {
+                Check.due(i + " shut, " + lock + " is open", lock == i ? 0 : 1, x.told(lock, 1));
+            }
+            Check.due("in its rack still", 2, x.told(i, 2));
+            Check.due("lost still", 1, x.told(i, 3));
+            Check.due("no wear", 0, x.count(4));
+        }
     }
 
     private static void shutWhere() {
@@ -200,6 +254,28 @@ final class LocksEdges {
         Edge.refused("of a shut one that stands at its word a new word", Check.STATE,
             () -> Stations.shutAt(9, 9), x -> x.rename(0, 10));
         Edge.refused("of a shut one the same word", Check.STATE, () -> Stations.shutAt(9, 0), x -> x.rename(0, 9));
+    }
+
+    private static void loseFromNowOn() {
+        Doc.says(7, "Loses the word of a lock, or finds it again.");
+        Doc.says(7, "`lost`: whether it is lost from now on");
+        LetterLocks x = Stations.open(2);
+        x.lose(1, true);
+        for (int day = 0; day < 5; day++) {
+            Check.due("lost, behind hours", 1, x.told(1, 3));
+            Check.due("its word", -1, x.told(1, 5));
+            Check.due("the other one", 0, x.told(0, 3));
+            x.pass(24);
+        }
+        x.shut(1);
+        Stations.standAt(x, 1, 185);
+        x.open(1);
+        Check.due("lost, opened at its word", 1, x.told(1, 3));
+        x.lose(1, false);
+        Check.due("found", 0, x.told(1, 3));
+        Check.due("its word again", 185, x.told(1, 5));
+        x.pass(24);
+        Check.due("found, behind hours", 185, x.told(1, 5));
     }
 
     private static void loseOrFind() {

@@ -4,6 +4,7 @@ final class RacksEdges {
     }
 
     static void run() {
+        placesFromNowOn();
         placesBefore();
         placesOfWhich();
         placesHowMany();
@@ -17,12 +18,27 @@ final class RacksEdges {
         putBefore();
         putWhich();
         putIntoWhich();
+        putInAllCases();
         putShut();
         putNotOpen();
         putNotOpenOverMidnight();
         putThereAlready();
         putFull();
         putFullOfAllKinds();
+    }
+
+    private static void placesFromNowOn() {
+        Doc.says(8, "`places`: its places from now on");
+        for (int places = 1; places <= 6; places++) {
+            LetterLocks x = Stations.open(8);
+            x.setPlaces(1, places);
+            x.pass(99);
+            for (int lock = 0; lock < places; lock++) {
+                Check.due(places + " places, into one of them", -1, x.put(lock, 1));
+            }
+            Check.due("places", places, x.rack(1, 0));
+            Check.due("no place more", "IllegalStateException", Check.thrownBy(() -> x.put(7, 1)));
+        }
     }
 
     private static void placesBefore() {
@@ -159,6 +175,51 @@ final class RacksEdges {
         Doc.says(10, "`rack`: the rack, or -1 for none");
         Edge.range(Check.INDEX, -1, 2, Stations::mixed, (x, rack) -> x.put(4, rack));
         Edge.range(Check.INDEX, -1, 2, () -> Stations.open(1), (x, rack) -> x.put(0, rack));
+    }
+
+    /** Shut or open, from any rack to any, each open or not and full or not. */
+    private static void putInAllCases() {
+        Doc.says(10, "Throws `IllegalStateException` if it is shut, unless it is there already; "
+            + "or the rack is another one than it is in, and not open now, or full");
+        for (int i = 0; i < 4 * 4 * 16; i++) {
+            int from = i / 64 - 1;
+            int to = i / 16 % 4 - 1;
+            boolean isShut = i / 8 % 2 == 1;
+            boolean fromIsOpen = i / 4 % 2 == 1;
+            boolean isOpen = i / 2 % 2 == 1;
+            boolean isFull = i % 2 == 1;
+            Edge.Made made = () -> fromTo(from, to, isShut, fromIsOpen, isOpen, isFull);
+            String what = (isShut ? "shut, from " : "open, from ") + from + (fromIsOpen ? "" : " not open") + " to " + to
+                + (isOpen ? "" : " not open") + (isFull ? " full" : "");
+            boolean isThere = from == to;
+            if (isShut && !isThere || to != -1 && !isThere && (!isOpen || isFull)) {
+                Edge.refused(what, Check.STATE, made, x -> x.put(7, to));
+            } else {
+                LetterLocks x = Edge.answers(what, from, made, y -> y.put(7, to));
+                Check.due(what + ", its rack then", to, x.told(7, 2));
+                Check.due(what + ", is open", isShut ? 0 : 1, x.told(7, 1));
+            }
+        }
+    }
+
+    private static LetterLocks fromTo(int from, int to, boolean isShut, boolean fromIsOpen, boolean isOpen, boolean isFull) {
+        LetterLocks x = Stations.open(8);
+        x.put(7, from);
+        if (from != -1) {
+            x.setHours(from, 0, fromIsOpen ? 24 : 0);
+        }
+        if (to != -1) {
+            x.setPlaces(to, 2);
+            x.setHours(to, 0, 24);
+            for (int lock = 0; isFull && x.rack(to, 1) < 2; lock++) {
+                x.put(lock, to);
+            }
+            x.setHours(to, 0, isOpen ? 24 : 0);
+        }
+        if (isShut) {
+            x.shut(7);
+        }
+        return x;
     }
 
     private static void putShut() {

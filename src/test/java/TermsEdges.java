@@ -4,6 +4,7 @@ final class TermsEdges {
     }
 
     static void run() {
+        theWhole();
         mostCalls();
         mostHours();
         hourOfTheDay();
@@ -13,6 +14,7 @@ final class TermsEdges {
         ringsAtFirst();
         locksAtFirst();
         lostWorksAsKnown();
+        lostInAllCalls();
         turnsEitherWay();
         openStandsAnywhere();
         mixing();
@@ -28,6 +30,22 @@ final class TermsEdges {
         changesNothing();
         firstNamedLocks();
         firstNamedRacksAndHours();
+    }
+
+    private static void theWhole() {
+        Doc.onlyTells("What it is", "Letter locks for bicycles at a station.");
+        Doc.onlyTells("Terms", "A lock has four rings of six letters and a word; it is turned letter by letter, "
+            + "and opens at its word; rings wear where they rest, and the wear shows; words get lost, and are found again "
+            + "by trying the letters that show the most; racks have places by the hour; and it is told how each lock stands, "
+            + "how many turns a word takes, what the wear shows, in how many trials a thief would find a word, "
+            + "which racks are full, and how the next hours will be.");
+        Doc.onlyTells("Terms", "All numbers are whole, and / is cut towards 0.");
+        Doc.onlyTells("Terms", "```text");
+        Doc.onlyTells("What it is", "what later calls answer is free.");
+        Doc.onlyTells("Not promised", "How the state is held inside the object is free, as are the speed of each call, "
+            + "the text of toString and the behaviour of equals and hashCode. Use of one object from several threads at once "
+            + "is not promised to be safe. Nothing is promised beyond the answers and state changes described above, "
+            + "and nothing about an object after its 512th call.");
     }
 
     private static void mostCalls() {
@@ -79,8 +97,8 @@ final class TermsEdges {
     }
 
     private static void words() {
-        Doc.says("Terms", "216 times the letter of the first ring, 36 times that of the second one, "
-            + "6 times that of the third one, and that of the fourth one, added; 0 to 1295.");
+        Doc.says("Terms", "A word is told as a number: 216 times the letter of the first ring, "
+            + "36 times that of the second one, 6 times that of the third one, and that of the fourth one, added; 0 to 1295.");
         LetterLocks x = Stations.open(1);
         Check.due("the least", 0, x.told(0, 0));
         x.turn(0, 0, 1);
@@ -96,7 +114,7 @@ final class TermsEdges {
     }
 
     private static void mostLocks() {
-        Doc.says("Terms", "There are at most 8, numbered from 0;");
+        Doc.says("Terms", "Locks. There are at most 8, numbered from 0;");
         LetterLocks x = new LetterLocks();
         for (int number = 0; number < 8; number++) {
             Check.due("the number", number, x.lock(number));
@@ -107,7 +125,7 @@ final class TermsEdges {
     }
 
     private static void ringsAtFirst() {
-        Doc.says("Terms", "four rings, 0 to 3; each ring stands at a letter (0, at first), "
+        Doc.says("Terms", "each has four rings, 0 to 3; each ring stands at a letter (0, at first), "
             + "and has wear, 0 to 99 (0, at first), at each of its letters");
         LetterLocks x = Stations.with(1295);
         Check.due("stands at first", 0, x.told(0, 0));
@@ -119,7 +137,8 @@ final class TermsEdges {
     }
 
     private static void locksAtFirst() {
-        Doc.says("Terms", "is open (at first) or shut, is in a rack or in none (at first), and its word is known (at first)");
+        Doc.says("Terms", "A lock has a word, is open (at first) or shut, is in a rack or in none (at first), "
+            + "and its word is known (at first) or lost");
         for (int lock : new int[] {0, 7}) {
             Edge.answers("open at first", 1, () -> Stations.open(8), x -> x.told(lock, 1));
             Edge.answers("in none at first", -1, () -> Stations.open(8), x -> x.told(lock, 2));
@@ -148,8 +167,65 @@ final class TermsEdges {
         Check.due("and stays lost", true, lost.lose(0, true));
     }
 
+    private static void lostInAllCalls() {
+        Doc.says("Terms", "and its word is known (at first) or lost (a lost one works as a known one).");
+        LetterLocks lost = Stations.mixed();
+        LetterLocks known = Stations.mixed();
+        for (int lock = 0; lock < 8; lock++) {
+            lost.lose(lock, true);
+            known.lose(lock, false);
+        }
+        Check.due("all that is told but of the words", toldButWords(known), toldButWords(lost));
+        Check.due("turning to the words, and opening", openedAtWords(known), openedAtWords(lost));
+        Check.due("locks that racks shut", known.pass(20), lost.pass(20));
+        Check.due("what is told behind it", toldButWords(known), toldButWords(lost));
+        Check.due("putting, shutting and the words before", renamed(known), renamed(lost));
+        Check.due("what is told then", toldButWords(known), toldButWords(lost));
+    }
+
+    private static String toldButWords(LetterLocks x) {
+        StringBuilder all = new StringBuilder();
+        for (int lock = 0; lock < 8; lock++) {
+            for (int what : new int[] {0, 1, 2, 4}) {
+                all.append(x.told(lock, what)).append(' ');
+            }
+            all.append(x.trial(lock, 777)).append(' ').append(x.safe(lock)).append(' ');
+            all.append(x.until(lock)).append(' ').append(x.foresee(30, lock)).append("; ");
+        }
+        for (int what : new int[] {0, 1, 2, 4, 5, 6}) {
+            all.append(x.count(what)).append(' ');
+        }
+        for (int rack = 0; rack < 3; rack++) {
+            all.append(x.rack(rack, 1)).append(' ').append(x.rack(rack, 3)).append(' ');
+        }
+        return all.append(x.weakest()).append(' ').append(x.mean()).toString();
+    }
+
+    private static String openedAtWords(LetterLocks x) {
+        StringBuilder all = new StringBuilder();
+        for (int lock = 0; lock < 8; lock++) {
+            Stations.standAt(x, lock, 185 * lock);
+            all.append(x.open(lock)).append(' ');
+        }
+        return all.append(x.count(5)).toString();
+    }
+
+    private static String renamed(LetterLocks x) {
+        StringBuilder all = new StringBuilder();
+        for (int i = 0; i < 8; i++) {
+            int lock = i;
+            all.append(Check.thrownBy(() -> x.put(lock, lock % 4 - 1))).append(' ');
+            all.append(Check.thrownBy(() -> x.shut(lock))).append(' ');
+            Stations.standAt(x, lock, 185 * lock);
+            all.append(x.open(lock)).append(' ').append(x.rename(lock, 1295 - lock)).append(' ');
+            all.append(x.told(lock, 3)).append(' ').append(x.told(lock, 5)).append("; ");
+        }
+        return all.toString();
+    }
+
     private static void turnsEitherWay() {
-        Doc.says("Terms", "as many turns as the letters are apart, either way round (from 0 to 5 is 1).");
+        Doc.says("Terms",
+            "Turning a ring to a letter takes as many turns as the letters are apart, either way round (from 0 to 5 is 1).");
         String[] apart = {"012321", "101232", "210123", "321012", "232101", "123210"};
         for (int ring = 0; ring < 4; ring++) {
             LetterLocks x = Stations.open(1);
@@ -202,7 +278,7 @@ final class TermsEdges {
     }
 
     private static void racksAtFirst() {
-        Doc.says("Terms", "There are 3, 0 to 2; each has 1 to 6 places (4, at first), and hours in which it is open:");
+        Doc.says("Terms", "Racks. There are 3, 0 to 2; each has 1 to 6 places (4, at first), and hours in which it is open:");
         int[] first = {4, 0, 1, 0, 0, 24};
         for (int rack = 0; rack < 3; rack++) {
             for (int what = 0; what < 6; what++) {
@@ -264,7 +340,7 @@ final class TermsEdges {
     }
 
     private static void leastOfMostWorn() {
-        Doc.says("Terms", "The letter of a ring that shows is that with the most wear, of several the least one.");
+        Doc.says("Terms", "What shows. The letter of a ring that shows is that with the most wear, of several the least one.");
         LetterLocks x = Stations.shutAt(0, 1295);
         Check.due("of all, unworn, the least", 0, x.told(0, 4));
         x.pass(1);
@@ -278,7 +354,8 @@ final class TermsEdges {
     }
 
     private static void orderOfLetters() {
-        Doc.says("Terms", "the most worn one first, of as much worn ones the least one first.");
+        Doc.says("Terms", "A thief tries words. For each ring letters stand in the order of their wear, "
+            + "the most worn one first, of as much worn ones the least one first.");
         LetterLocks x = Stations.shutAt(0, 3);
         x.pass(2);
         x.turn(0, 3, 5);
@@ -295,7 +372,8 @@ final class TermsEdges {
     }
 
     private static void orderOfWords() {
-        Doc.says("Terms", "the least sum first, of the same sum by the word, the least one first.");
+        Doc.says("Terms", "The words are tried by the sum of the places that their letters have in these orders (each from 0), "
+            + "the least sum first, of the same sum by the word, the least one first.");
         int[] first = {0, 1, 6, 36, 216, 2, 7, 12, 37, 42, 72, 217, 222, 252, 432, 3};
         for (int trial = 1; trial <= first.length; trial++) {
             int word = first[trial - 1];

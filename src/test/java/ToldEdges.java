@@ -8,23 +8,27 @@ final class ToldEdges {
         toldStates();
         toldShows();
         toldWord();
+        toldChangesNothing();
         toldWhich();
         toldWhat();
         wearThere();
+        wearChangesNothing();
         wearWhich();
         rackTold();
         rackOpenNow();
         rackHours();
+        rackChangesNothing();
         rackWhich();
         countWithout();
         countAll();
         countMostWear();
         countTurns();
+        countChangesNothing();
         countWhat();
     }
 
     private static void toldStands() {
-        Doc.says(11, "0 at which word its rings stand");
+        Doc.says(11, "`what`: 0 at which word its rings stand");
         Edge.answers("the least", 0, () -> Stations.shutAt(7, 0), x -> x.told(0, 0));
         Edge.answers("the largest", 1295, () -> Stations.shutAt(7, 1295), x -> x.told(0, 0));
         Edge.answers("of the last lock", 0, () -> Stations.open(8), x -> x.told(7, 0));
@@ -76,6 +80,15 @@ final class ToldEdges {
         Edge.answers("of a shut one", 9, () -> Stations.shutAt(9, 8), y -> y.told(0, 5));
     }
 
+    private static void toldChangesNothing() {
+        Doc.says(11, "Returns this.");
+        int[] of = {1295, 0, -1, 0, 1295, 925};
+        for (int what = 0; what < 6; what++) {
+            int asked = what;
+            Edge.onlyTells("of lock 5 " + what, of[what], Stations::mixed, x -> x.told(5, asked));
+        }
+    }
+
     private static void toldWhich() {
         Doc.says(11, "Throws `IndexOutOfBoundsException` if there is no such lock, or what is not 0 to 5");
         for (int what = 0; what < 6; what++) {
@@ -103,6 +116,13 @@ final class ToldEdges {
         Check.due("the last ring's last letter but one", 99, x.wear(0, 3, 4));
     }
 
+    private static void wearChangesNothing() {
+        Doc.says(12, "Returns the wear there.");
+        Edge.onlyTells("of a shut lock", 5, Stations::mixed, x -> x.wear(5, 3, 5));
+        Edge.onlyTells("of an open one, in a rack", 14, Stations::mixed, x -> x.wear(0, 3, 0));
+        Edge.onlyTells("of an open one, in none", 0, Stations::mixed, x -> x.wear(7, 3, 5));
+    }
+
     private static void wearWhich() {
         Doc.says(12, "Throws `IndexOutOfBoundsException` if there is no such lock, ring is not 0 to 3, or letter is not 0 to 5");
         Edge.lockNumbers((x, lock) -> x.wear(lock, 0, 0));
@@ -118,7 +138,7 @@ final class ToldEdges {
     }
 
     private static void rackTold() {
-        Doc.says(13, "0 its places, 1 locks in it, 2 1 if it is open now, else 0, 3 open locks in it");
+        Doc.says(13, "`what`: 0 its places, 1 locks in it, 2 1 if it is open now, else 0, 3 open locks in it");
         int[][] mixed = {{2, 2, 1, 1}, {4, 2, 0, 0}, {6, 0, 1, 0}};
         for (int rack = 0; rack < 3; rack++) {
             for (int what = 0; what < 4; what++) {
@@ -163,6 +183,15 @@ final class ToldEdges {
         Check.due("another one's", 24, x.rack(1, 5));
     }
 
+    private static void rackChangesNothing() {
+        Doc.says(13, "Returns this.");
+        int[] of = {4, 2, 0, 0, 22, 6};
+        for (int what = 0; what < 6; what++) {
+            int asked = what;
+            Edge.onlyTells("of rack 1 " + what, of[what], Stations::mixed, x -> x.rack(1, asked));
+        }
+    }
+
     private static void rackWhich() {
         Doc.says(13, "Throws `IndexOutOfBoundsException` if rack is not 0 to 2, or what is not 0 to 5");
         for (int i = 0; i < 6; i++) {
@@ -181,7 +210,8 @@ final class ToldEdges {
     }
 
     private static void countWithout() {
-        Doc.says(14, "0 the hour, 1 locks, 2 open ones, 3 lost words, 4 all wear, 5 turns in all (by turn()), 6 locks in racks");
+        Doc.says(14, "`what`: 0 the hour, 1 locks, 2 open ones, 3 lost words, 4 all wear, 5 turns in all (by turn()), "
+            + "6 locks in racks");
         LetterLocks x = new LetterLocks();
         counts("without locks", x, 0, 0, 0, 0, 0, 0, 0);
         x.pass(99);
@@ -229,6 +259,15 @@ final class ToldEdges {
         Check.thrownBy(() -> x.turn(8, 0, 3));
         Check.thrownBy(() -> x.turn(0, 0, 6));
         Check.due("not by a refused turn", 4, x.count(5));
+    }
+
+    private static void countChangesNothing() {
+        Doc.says(14, "Returns this.");
+        int[] all = {7, 8, 4, 2, 56 + 28 + 56 + 56 + 28, 1 + 3 + 8, 4};
+        for (int what = 0; what < 7; what++) {
+            int asked = what;
+            Edge.onlyTells("count " + what, all[what], Stations::mixed, x -> x.count(asked));
+        }
     }
 
     private static void countWhat() {
